@@ -16,6 +16,8 @@ public final class NoseTown {
     private static final int MOST_GATES = 5;
     private static final int MOST_NOSED = 12;
     private static final int MOST_TUNED = 6;
+    private static final int MOST_WAYS = 729;
+    private static final int MOST_ORDERS = 120;
     private static final int MOST_ROUNDS = 21;
     private static final int MOST_DAYS = 100;
     private static final int MOST_NUMBER = 9999;
@@ -1215,7 +1217,7 @@ public final class NoseTown {
             int all = plan.allWeights();
             int most = floor;
             boolean isMore = true;
-            for (int way = 0; way < 729 && isMore && most < all; way++) {
+            for (int way = 0; way < MOST_WAYS && isMore && most < all; way++) {
                 int won = contest.weightsWon(garden, most);
                 if (won > most) {
                     most = won;
@@ -1353,11 +1355,11 @@ public final class NoseTown {
             for (int i = 0; i < plan.gateCount; i++) {
                 row[i] = i;
             }
-            int least = Integer.MAX_VALUE;
+            int least = NONE;
             boolean isMore = true;
-            for (int way = 0; way < 120 && isMore; way++) {
+            for (int way = 0; way < MOST_ORDERS && isMore; way++) {
                 int difference = greatestDifference();
-                if (difference < least) {
+                if (least == NONE || difference < least) {
                     least = difference;
                     System.arraycopy(row, 0, fairest, 0, MOST_GATES);
                 }
@@ -1399,15 +1401,15 @@ public final class NoseTown {
         }
 
         private int difference(int wind) {
-            int most = Integer.MIN_VALUE;
-            int least = Integer.MAX_VALUE;
+            int most = 0;
+            int least = 0;
             for (int garden = 0; garden < plan.gardenCount; garden++) {
                 int sum = 0;
                 for (int i = 0; i < plan.gateCount; i++) {
                     sum += marks[placeOf(wind, i, row[i]) + garden];
                 }
-                most = Math.max(most, sum);
-                least = Math.min(least, sum);
+                most = garden == 0 ? sum : Math.max(most, sum);
+                least = garden == 0 ? sum : Math.min(least, sum);
             }
             return most - least;
         }
@@ -1510,10 +1512,10 @@ public final class NoseTown {
         }
 
         int chooseGate(int hour) {
-            int least = Integer.MAX_VALUE;
+            int least = NONE;
             for (int gate = 0; gate < plan.gateCount; gate++) {
                 int greatest = greatestGroup(plan.gateCell[gate], hour);
-                if (greatest < least) {
+                if (least == NONE || greatest < least) {
                     least = greatest;
                     chosenGate = gate;
                 }
