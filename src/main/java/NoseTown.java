@@ -171,13 +171,13 @@ public final class NoseTown {
     public int smell(int plant, int cell, int hour, int wind) throws NoSuchElementException {
         need(isBelow(plant, plan.plantCount));
         needAir(cell, hour, wind);
-        return blend.plantScent(plant, cell, now.week, hour, wind);
+        return blend.plantScent(plant, cell, hour, wind);
     }
 
     public int smelt(int sort, int cell, int hour, int wind, int what) throws NoSuchElementException {
         need(isBelow(sort, plan.sortCount) && isBelow(what, 3));
         needAir(cell, hour, wind);
-        blend.fill(cell, now.week, hour, wind);
+        blend.fill(cell, hour, wind);
         if (what == 0) {
             return blend.raw[sort];
         }
@@ -188,7 +188,7 @@ public final class NoseTown {
     public int mark(int garden, int cell, int hour, int wind) throws NoSuchElementException {
         needGarden(garden);
         needAir(cell, hour, wind);
-        blend.fill(cell, now.week, hour, wind);
+        blend.fill(cell, hour, wind);
         return blend.markOf(garden);
     }
 
@@ -868,7 +868,6 @@ public final class NoseTown {
         int week;
         int nosedCount;
         final int[] nosedGate = new int[MOST_NOSED];
-        final int[] nosedWeek = new int[MOST_NOSED];
         final int[] nosedHour = new int[MOST_NOSED];
         final int[] nosedSort = new int[MOST_NOSED];
         final int[] nosedMuch = new int[MOST_NOSED];
@@ -891,7 +890,6 @@ public final class NoseTown {
 
         void note(int gate, int hour, int sort, int much) {
             nosedGate[nosedCount] = gate;
-            nosedWeek[nosedCount] = week;
             nosedHour[nosedCount] = hour;
             nosedSort[nosedCount] = sort;
             nosedMuch[nosedCount] = much;
@@ -905,7 +903,6 @@ public final class NoseTown {
             System.arraycopy(other.how, 0, how, 0, MOST_PLANTS);
             System.arraycopy(other.row, 0, row, 0, MOST_GATES);
             System.arraycopy(other.nosedGate, 0, nosedGate, 0, MOST_NOSED);
-            System.arraycopy(other.nosedWeek, 0, nosedWeek, 0, MOST_NOSED);
             System.arraycopy(other.nosedHour, 0, nosedHour, 0, MOST_NOSED);
             System.arraycopy(other.nosedSort, 0, nosedSort, 0, MOST_NOSED);
             System.arraycopy(other.nosedMuch, 0, nosedMuch, 0, MOST_NOSED);
@@ -936,20 +933,20 @@ public final class NoseTown {
             }
         }
 
-        void fill(int cell, int week, int hour, int wind) {
+        void fill(int cell, int hour, int wind) {
             clear();
             for (int plant = 0; plant < plan.plantCount; plant++) {
-                int much = plantScent(plant, cell, week, hour, wind);
+                int much = plantScent(plant, cell, hour, wind);
                 add(plan.plantSort[plant], plan.plantGarden[plant], much);
             }
         }
 
-        int plantScent(int plant, int cell, int week, int hour, int wind) {
+        int plantScent(int plant, int cell, int hour, int wind) {
             if (now.how[plant] == SHUT) {
                 return 0;
             }
             int times = now.how[plant] == BURNED ? 3 : 1;
-            return plan.scent(plan.plantSort[plant], times, plan.plantCell[plant], cell, week, hour, wind);
+            return plan.scent(plan.plantSort[plant], times, plan.plantCell[plant], cell, now.week, hour, wind);
         }
 
         int masked(int sort) {
@@ -1373,7 +1370,7 @@ public final class NoseTown {
             for (int wind = 0; wind < WINDS; wind++) {
                 for (int i = 0; plan.weights[wind] > 0 && i < plan.gateCount; i++) {
                     for (int gate = 0; gate < plan.gateCount; gate++) {
-                        blend.fill(plan.gateCell[gate], now.week, (now.begin + i) % HOURS, wind);
+                        blend.fill(plan.gateCell[gate], (now.begin + i) % HOURS, wind);
                         keepMarks(placeOf(wind, i, gate));
                     }
                 }
@@ -1472,7 +1469,7 @@ public final class NoseTown {
         private void collectBy(int wind) {
             for (int i = 0; i < now.nosedCount; i++) {
                 int cell = plan.gateCell[now.nosedGate[i]];
-                blend.fill(cell, now.nosedWeek[i], now.nosedHour[i], wind);
+                blend.fill(cell, now.nosedHour[i], wind);
                 blend.saveRaw(seen, i);
             }
             tryCase(wind, NONE, 0);
@@ -1490,8 +1487,7 @@ public final class NoseTown {
                 int gate = plan.gateCell[now.nosedGate[i]];
                 blend.loadRaw(seen, i);
                 if (sort != NONE) {
-                    int week = now.nosedWeek[i];
-                    blend.raw[sort] += plan.scent(sort, 1, cell, gate, week, now.nosedHour[i], wind);
+                    blend.raw[sort] += plan.scent(sort, 1, cell, gate, now.week, now.nosedHour[i], wind);
                 }
                 int masked = blend.masked(now.nosedSort[i]);
                 if (blend.noticed(masked) != now.nosedMuch[i]) {
@@ -1526,7 +1522,7 @@ public final class NoseTown {
         private int greatestGroup(int gate, int hour) {
             for (int wind = 0; wind < WINDS; wind++) {
                 if (plan.weights[wind] > 0) {
-                    blend.fill(gate, now.week, hour, wind);
+                    blend.fill(gate, hour, wind);
                     blend.saveRaw(seen, wind);
                 }
             }

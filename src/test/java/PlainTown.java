@@ -20,7 +20,7 @@ final class PlainTown {
 
     record Mask(int masking, int masked, int part) {}
 
-    record Nosed(int gate, int week, int hour, int sort, int much) {}
+    record Nosed(int gate, int hour, int sort, int much) {}
 
     record Case(int number, int wind, Plant more) {}
 
@@ -369,9 +369,9 @@ final class PlainTown {
 
     // ---- smells
 
-    private int smellOf(Plant p, int cell, int inWeek, int hour, int wind) {
+    private int smellOf(Plant p, int cell, int hour, int wind) {
         Sort s = t.sorts.get(p.sort);
-        if (p.how == 1 || inWeek < s.week0 || inWeek > s.week1 || hour < s.hour0 || hour > s.hour1) {
+        if (p.how == 1 || week < s.week0 || week > s.week1 || hour < s.hour0 || hour > s.hour1) {
             return 0;
         }
         int east = cell % t.w - p.cell % t.w;
@@ -385,38 +385,38 @@ final class PlainTown {
         return Math.max(0, strength - t.fade * steps + t.gain * along[wind]);
     }
 
-    private int raw(List<Plant> plants, int sort, int garden, int cell, int inWeek, int hour, int wind) {
+    private int raw(List<Plant> plants, int sort, int garden, int cell, int hour, int wind) {
         int all = 0;
         for (Plant p : plants) {
             if (p.sort == sort && (garden == -1 || p.garden == garden)) {
-                all += smellOf(p, cell, inWeek, hour, wind);
+                all += smellOf(p, cell, hour, wind);
             }
         }
         return all;
     }
 
-    private int masked(List<Plant> plants, int sort, int cell, int inWeek, int hour, int wind) {
-        int left = raw(plants, sort, -1, cell, inWeek, hour, wind);
+    private int masked(List<Plant> plants, int sort, int cell, int hour, int wind) {
+        int left = raw(plants, sort, -1, cell, hour, wind);
         for (Mask m : t.masks) {
             if (m.masked == sort) {
-                left -= m.part * raw(plants, m.masking, -1, cell, inWeek, hour, wind) / 100;
+                left -= m.part * raw(plants, m.masking, -1, cell, hour, wind) / 100;
             }
         }
         return Math.max(0, left);
     }
 
-    private int smeltOf(List<Plant> plants, int sort, int cell, int inWeek, int hour, int wind) {
-        int m = masked(plants, sort, cell, inWeek, hour, wind);
+    private int smeltOf(List<Plant> plants, int sort, int cell, int hour, int wind) {
+        int m = masked(plants, sort, cell, hour, wind);
         return m < t.cold ? 0 : m;
     }
 
     private int markOf(List<Plant> plants, int garden, int cell, int hour, int wind) {
         int all = 0;
         for (int s = 0; s < t.sorts.size(); s++) {
-            int r = raw(plants, s, -1, cell, week, hour, wind);
+            int r = raw(plants, s, -1, cell, hour, wind);
             if (r > 0) {
-                int own = raw(plants, s, garden, cell, week, hour, wind);
-                all += t.sorts.get(s).liking * (smeltOf(plants, s, cell, week, hour, wind) * own / r);
+                int own = raw(plants, s, garden, cell, hour, wind);
+                all += t.sorts.get(s).liking * (smeltOf(plants, s, cell, hour, wind) * own / r);
             }
         }
         return all;
@@ -427,7 +427,7 @@ final class PlainTown {
         needCell(cell);
         needHour(hour);
         needWind(wind);
-        return smellOf(t.plants.get(plant), cell, week, hour, wind);
+        return smellOf(t.plants.get(plant), cell, hour, wind);
     }
 
     public int smelt(int sort, int cell, int hour, int wind, int what) {
@@ -436,8 +436,8 @@ final class PlainTown {
         needHour(hour);
         needWind(wind);
         needWhat(what, 2);
-        return new int[] {raw(t.plants, sort, -1, cell, week, hour, wind),
-            masked(t.plants, sort, cell, week, hour, wind), smeltOf(t.plants, sort, cell, week, hour, wind)}[what];
+        return new int[] {raw(t.plants, sort, -1, cell, hour, wind),
+            masked(t.plants, sort, cell, hour, wind), smeltOf(t.plants, sort, cell, hour, wind)}[what];
     }
 
     public int mark(int garden, int cell, int hour, int wind) {
@@ -695,7 +695,7 @@ final class PlainTown {
             status[2]++;
             return -1;
         }
-        nosed.add(new Nosed(gate, week, hour, sort, much));
+        nosed.add(new Nosed(gate, hour, sort, much));
         return nosed.size();
     }
 
@@ -710,7 +710,7 @@ final class PlainTown {
     private boolean fits(Case c) {
         List<Plant> plants = with(t.plants, c.more);
         for (Nosed n : nosed) {
-            if (smeltOf(plants, n.sort, t.gates.get(n.gate), n.week, n.hour, c.wind) != n.much) {
+            if (smeltOf(plants, n.sort, t.gates.get(n.gate), n.hour, c.wind) != n.much) {
                 return false;
             }
         }
@@ -757,7 +757,7 @@ final class PlainTown {
             for (Case c : all) {
                 List<Integer> alike = new ArrayList<>();
                 for (int s = 0; s < t.sorts.size(); s++) {
-                    alike.add(smeltOf(with(t.plants, c.more), s, t.gates.get(gate), week, hour, c.wind));
+                    alike.add(smeltOf(with(t.plants, c.more), s, t.gates.get(gate), hour, c.wind));
                 }
                 groups.merge(alike, 1, Integer::sum);
             }

@@ -731,7 +731,17 @@ public final class PromiseTest {
         due("24 masked", 1, () -> y.cases(-1));
         due("24 by west, in the gate's cell", 4007, () -> y.cases(0));
         y.week(0);
-        due("24 the week of then", 1, () -> y.cases(-1));
+        due("24 the week as it is now", 0, () -> y.cases(-1));
+        due("24 none in the week as it is now", NO_SUCH, () -> y.cases(0));
+        y.forget();
+        y.nose(0, 12, 0, 17);
+        due("24 in week 0 sort 1 masks nothing", 6, () -> y.cases(-1));
+        y.week(3);
+        due("24 in week 3 it does, but from afar", 2, () -> y.cases(-1));
+        due("24 from afar", 4000 + 1 + 6 * 1 + 5, () -> y.cases(1));
+        y.nose(0, 12, 1, 0);
+        y.week(0);
+        due("24 all that was nosed is of one week", 6, () -> y.cases(-1));
         due("24 no sorts", 5, () -> townOf("gate 0 0;").cases(-1));
         due("24 no weights", 0, () -> townOf("gate 0 0;winds 0 0 0 0 0;").cases(-1));
         NoseTown twelve = townOf("town 4 4;sort 9 0 51 0 23 1;" + plants(4, 0).replace(" of 0", "")
@@ -759,7 +769,11 @@ public final class PromiseTest {
         due("25 its group", 2, () -> y.next(6, 1));
         due("25 at another hour all alike", 0, () -> y.next(7, 0));
         due("25 at another hour, group", 7, () -> y.next(7, 1));
-        y.week(1);
+        NoseTown spring = townOf("town 3 2;sort 20 0 0 0 23 1;gate 0 0;winds 1 0 0 0 0;");
+        spring.nose(0, 12, 0, 20);
+        due("25 in its week", 1, () -> spring.next(12, 1));
+        spring.week(1);
+        due("25 in another week none fit", -1, () -> spring.next(12, 1));
         due("25 no sorts", 5, () -> townOf("gate 0 0;").next(3, 1));
     }
 
@@ -843,6 +857,8 @@ public final class PromiseTest {
         due("28 nosed anew", 0, () -> z.cases(-1));
         z.restore();
         due("28 nosed as kept", 1 + 6 + 4, () -> z.cases(-1));
+        z.week(0);
+        due("28 in the week as it is now", 0, () -> z.cases(-1));
     }
 
     public static void main(String[] args) {
