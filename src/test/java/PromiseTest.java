@@ -1,69 +1,5 @@
-import java.util.NoSuchElementException;
-
 /** Each promise by its number: ordinary inputs, edges, wrong inputs, with answers worked out by hand. */
-public final class PromiseTest {
-    /** What a call answers that throws. */
-    private static final long NO_SUCH = Long.MIN_VALUE;
-    private static final long ILLEGAL = Long.MIN_VALUE + 1;
-
-    /** Two gardens, a gate between them: the first one's plant smells 10 there if calm, the other's 0. */
-    private static final String DUEL = "town 5 2;sort 20 0 51 0 23 3;herb 10 0 51 0 23 1;garden;garden;"
-        + "plant 0 0 0 of 0;plant 1 4 0 of 1;gate 2 0;";
-    private static final String SORT = "sort 5 0 0 0 0 1;";
-
-    private static int wrong;
-
-    private interface Call {
-        long answer();
-    }
-
-    private static void due(String what, long want, Call call) {
-        long got;
-        try {
-            got = call.answer();
-        } catch (NoSuchElementException e) {
-            got = NO_SUCH;
-        } catch (IllegalArgumentException e) {
-            got = ILLEGAL;
-        }
-        if (got != want) {
-            wrong++;
-            System.out.println(what + " answered " + got + ", due is " + want);
-        }
-    }
-
-    private static long bit(boolean b) {
-        return b ? 1 : 0;
-    }
-
-    private static void feedText(NoseTown x, String text) {
-        StringBuilder padded = new StringBuilder(text);
-        while (padded.length() % 20 != 0) {
-            padded.append(' ');
-        }
-        for (int i = 0; i < padded.length(); i += 20) {
-            int[] n = new int[5];
-            for (int j = 0; j < 20; j++) {
-                n[j / 4] = n[j / 4] << 8 | padded.charAt(i + j) & 255;
-            }
-            x.feed(n[0], n[1], n[2], n[3], n[4]);
-        }
-    }
-
-    private static NoseTown townOf(String text) {
-        NoseTown x = new NoseTown();
-        feedText(x, text);
-        due("town of: " + text, 0, () -> x.town(text.length()));
-        return x;
-    }
-
-    private static void counts(String name, NoseTown x, int... want) {
-        for (int what = 0; what < want.length; what++) {
-            int asked = what;
-            due(name + " count " + what, want[what], () -> x.count(asked));
-        }
-    }
-
+public final class PromiseTest extends TownChecks {
     private static void promise1() {
         NoseTown x = new NoseTown();
         counts("1 new", x, 6, 6, 0, 0, 0, 0, 5, 2, 2, 0, 12, 0, 0, 0, 0, 0, 0);
@@ -95,14 +31,6 @@ public final class PromiseTest {
         due("2 full", -1, () -> x.feed(-1, -1, -1, -1, -1));
         due("2 none come", 700, () -> x.count(13));
         due("2 all of 700", 0, () -> x.town(700));
-    }
-
-    private static void faulty(String text, int fault, int place) {
-        NoseTown x = new NoseTown();
-        feedText(x, text);
-        due("3 fault of: " + text, fault, () -> x.town(text.length()));
-        due("4 place of: " + text, place, x::fault);
-        due("3 status by: " + text, fault == 0 ? 0 : 1, () -> x.count(14));
     }
 
     private static void promise3Tokens() {
@@ -883,9 +811,6 @@ public final class PromiseTest {
         promise25();
         promise26();
         promise27And28();
-        System.out.println(wrong == 0 ? "all promises hold" : wrong + " answers are not as due");
-        if (wrong != 0) {
-            System.exit(1);
-        }
+        end("all promises hold");
     }
 }
