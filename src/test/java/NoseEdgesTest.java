@@ -201,6 +201,21 @@ public final class NoseEdgesTest extends TownChecks {
             NoseTown x = townOf("town 2 2;" + ("sort 20" + ALL_YEAR + "1;").repeat(sorts) + "gate 1 1;winds 1 0 0 0 0;");
             next(sorts + " sorts", x, 0, 0, 2);
         }
+        for (int sort = 0; sort < 6; sort++) {
+            // three cells lie a step from the first gate; two of them lie alike to the second one
+            NoseTown x = townOf("town 3 2;" + ("sort 20" + ALL_YEAR + "1;").repeat(6) + "gate 1 0;gate 0 0;winds 1 0 0 0 0;");
+            x.nose(0, 0, sort, 15);
+            cases("a step off, sort " + sort, x, 1 + 6 * sort, 3 + 6 * sort, 5 + 6 * sort);
+            next("a step off, sort " + sort, x, 0, 1, 2);
+            x.nose(1, 0, sort, 10);
+            cases("two steps off, too", x, 3 + 6 * sort, 5 + 6 * sort);
+        }
+        NoseTown seen = townOf("town 2 2;" + ("sort 20" + ALL_YEAR + "1;").repeat(6) + "plant 5 0 0;plant 0 1 1;gate 0 0;"
+            + "winds 0 1 1 0 0;");
+        seen.nose(0, 0, 5, 20 + 17);
+        cases("the last sort beside one that is seen", seen, 1000 + 1 + 4 * 5 + 2);
+        seen.nose(0, 0, 0, 12);
+        cases("beside another one that is seen", seen, 1000 + 1 + 4 * 5 + 2);
         NoseTown winds = townOf("town 2 2;sort 20" + ALL_YEAR + "1;gate 0 0;gain 9;fade 9;against 0;winds 1 0 1 0 0;");
         // calm 20, 11, 11, 2 and nothing; by east 20, 0, 11, 0 and nothing
         next("by two winds", winds, 0, 0, 4);
@@ -222,6 +237,35 @@ public final class NoseEdgesTest extends TownChecks {
         due("amid the town most of them are smelt", 4, () -> all.next(12, 0));
     }
 
+    /** What grows stands beside what is seen, by each wind: 3 by 2 cells, one of them seen, the gate amid the long side. */
+    private static void beside() {
+        sentence("Terms", "A CASE: nothing more grows, or one more PLANT .. by one of the WINDS with a WEIGHT");
+        // seen at the gate: calm 15, north 13, east 17, south 13, west 13; a step against the wind counts, two don't
+        String seen = "town 3 2;sort 20" + ALL_YEAR + "1;plant 0 0 0;gate 1 0;gain 2;fade 5;against 1;winds ";
+        cases("calm", nosed(seen + "1 0 0 0 0;", 15), 0);
+        cases("calm, one more", nosed(seen + "1 0 0 0 0;", 15 + 20), 2);
+        cases("calm, one more a step off", nosed(seen + "1 0 0 0 0;", 15 + 15), 3, 5);
+        cases("east", nosed(seen + "0 0 1 0 0;", 17), 2000);
+        cases("east, one more against it", nosed(seen + "0 0 1 0 0;", 17 + 13), 2003);
+        cases("west", nosed(seen + "0 0 0 0 1;", 13), 4000);
+        cases("west, one more with it", nosed(seen + "0 0 0 0 1;", 13 + 17), 4003);
+        cases("north", nosed(seen + "0 1 0 0 0;", 15 + 17), 1005);
+        cases("south", nosed(seen + "0 0 0 1 0;", 15 + 13), 3005);
+        cases("any", nosed(seen + "9 9 9 9 9;", 30), 3, 5, 1003, 2003, 3003, 4003);
+        sentence("Terms", "each SORT would be SMELT alike");
+        // calm 15, 35, 30, 25, 30, 25; east 17, 37, 30, 29, 32, 25; by any wind 30 if it grows a step east of the gate
+        next("calm", townOf(seen + "1 0 0 0 0;"), 0, 0, 2);
+        next("east", townOf(seen + "0 0 1 0 0;"), 0, 0, 1);
+        next("calm and east", townOf(seen + "1 0 1 0 0;"), 0, 0, 3);
+        next("any", townOf(seen + "1 2 3 4 5;"), 0, 0, 6);
+    }
+
+    private static NoseTown nosed(String text, int much) {
+        NoseTown x = townOf(text);
+        x.nose(0, 0, 0, much);
+        return x;
+    }
+
     /** By each wind the garden of its number wins: calm the one at the gate, else the one from which it blows. */
     private static NoseTown fiveWinds(int... weights) {
         StringBuilder text = new StringBuilder("town 3 3;sort 21" + ALL_YEAR + "1;sort 20" + ALL_YEAR + "1;garden;garden;garden;"
@@ -230,12 +274,12 @@ public final class NoseEdgesTest extends TownChecks {
         for (int weight : weights) {
             text.append(' ').append(weight);
         }
-        NoseTown x = townOf(text.append(';').toString());
+        String all = text.append(';').toString();
         for (int wind = 0; wind < 5; wind++) {
             int asked = wind;
-            due("wins by wind " + wind, wind, () -> x.winner(asked, 0));
+            due("wins by wind " + wind, wind, () -> townOf(all).winner(asked, 0));
         }
-        return x;
+        return townOf(all);
     }
 
     /** The document's draws, by long numbers that never wrap. */
@@ -342,6 +386,71 @@ public final class NoseEdgesTest extends TownChecks {
         }
     }
 
+    /** All that an image keeps, at most: the last plant, the last gate, the last that was nosed. */
+    private static void imageOfTheMost() {
+        sentence("Terms", "AN IMAGE keeps how PLANTS are, the ORDER, BEGIN, the WEEK, NOSED, STATUS.");
+        StringBuilder text = new StringBuilder("town 8 2;" + ("herb 9" + ALL_YEAR + "1;").repeat(6) + "fade 9;gain 0;");
+        for (int i = 0; i < 12; i++) {
+            text.append("plant ").append(i % 6).append(' ').append(i % 6).append(' ').append(i / 6).append(';');
+        }
+        for (int i = 0; i < 5; i++) {
+            text.append("gate ").append(i).append(" 0;");
+        }
+        NoseTown x = townOf(text.toString());
+        for (int plant = 0; plant < 12; plant++) {
+            x.turn(plant, 2 - plant % 3);
+        }
+        x.walk(001234, 21);
+        x.week(50);
+        for (int i = 0; i < 11; i++) {
+            x.nose(0, 0, 5, 0);
+        }
+        x.nose(4, 23, 3, 18 + 9);
+        int fitting = x.cases(-1);
+        due("some fit", 1, () -> bit(fitting > 0));
+        x.image();
+        String kept = told(x);
+        for (int plant = 0; plant < 12; plant++) {
+            x.turn(plant, plant % 2);
+        }
+        x.walk(043210, 0);
+        x.week(0);
+        for (int i = 0; i < 12; i++) {
+            x.forget();
+        }
+        for (int i = 0; i < 12; i++) {
+            x.nose(1, 1, 1, 9999);
+        }
+        due("none fits", 0, () -> x.cases(-1));
+        x.restore();
+        dueText("as the image", kept, told(x));
+        x.forget();
+        x.nose(4, 23, 3, 19 + 9);
+        due("another one nosed at last", 0, () -> x.cases(-1));
+        x.restore();
+        due("nosed as kept", fitting, () -> x.cases(-1));
+    }
+
+    private static void hoursOfNosed() {
+        sentence("Terms", "AN IMAGE keeps .. NOSED");
+        NoseTown x = townOf("town 2 2;sort 9 0 51 5 5 1;gate 0 0;winds 1 0 0 0 0;fade 9;");
+        for (int last = 1; last <= MOST_NOSED; last++) {
+            for (int left = x.count(12); left > 0; left--) {
+                x.forget();
+            }
+            for (int i = 1; i <= last; i++) {
+                x.nose(0, i == last ? 5 : 4, 0, i == last ? 9 : 0);
+            }
+            cases("the one at its hour", x, 1);
+            x.image();
+            x.forget();
+            x.nose(0, 4, 0, 9);
+            cases("at another hour", x);
+            x.restore();
+            cases("at its hour again", x, 1);
+        }
+    }
+
     private static void imageOfNosed() {
         sentence("Terms", "AN IMAGE keeps .. NOSED");
         NoseTown x = townOf(STREET + "gate 2 1;sort 9" + ALL_YEAR + "1;");
@@ -431,8 +540,11 @@ public final class NoseEdgesTest extends TownChecks {
         weekAndHour();
         nextGate();
         everySortAlike();
+        beside();
         days();
         image();
+        imageOfTheMost();
+        hoursOfNosed();
         imageOfNosed();
         status();
         manyCalls();

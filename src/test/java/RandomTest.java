@@ -125,6 +125,29 @@ public final class RandomTest {
         return text.toString();
     }
 
+    /** All at most: six sorts, five gardens, twelve plants or eleven, five gates, 8 by 8 cells. */
+    private String drawLargest() {
+        StringBuilder text = new StringBuilder("town 8 8;" + "garden;".repeat(5));
+        for (int i = 0; i < 6; i++) {
+            text.append(oneIn(3) ? "herb " : "sort ").append(draw(1, 99)).append(" 0 ").append(oneIn(9) ? 0 : 51).append(" 0 ")
+                .append(draw(11, 23)).append(' ').append(oneIn(4) ? "-" : "").append(draw(0, 9)).append(';');
+        }
+        int first = draw(0, 63);
+        for (int i = draw(11, 12); i > 0; i--) {
+            first = (first + 5) % 64;
+            text.append("plant ").append(draw(0, 5)).append(' ').append(first % 8).append(' ').append(first / 8);
+            text.append(oneIn(6) ? "" : " of " + i % 5).append(';');
+        }
+        for (int i = 0; i < 5; i++) {
+            text.append("gate ").append(draw(0, 7)).append(' ').append(draw(0, 7)).append(';');
+        }
+        for (int i = 0; i < draw(0, 6); i++) {
+            text.append("mask ").append(i).append(' ').append((i + draw(1, 5)) % 6).append(' ').append(draw(1, 100)).append(';');
+        }
+        drawSettings(text);
+        return text.toString();
+    }
+
     /** Small gardens of herbs side by side: some answer one another for ever. */
     private String drawDuel() {
         StringBuilder text = new StringBuilder("town 4 4;");
@@ -207,8 +230,9 @@ public final class RandomTest {
 
     private void tellTown() {
         boolean isDuel = oneIn(8);
-        String text = isDuel ? drawDuel() : drawText();
-        if (oneIn(3)) {
+        boolean isLargest = !isDuel && oneIn(8);
+        String text = isDuel ? drawDuel() : isLargest ? drawLargest() : drawText();
+        if (!isLargest && oneIn(3)) {
             text = oneIn(2) ? misnumber(text) : spoil(text);
         }
         if (oneIn(5)) {

@@ -17,7 +17,11 @@ public final class RefusedTest extends TownChecks {
     }
 
     private static NoseTown busyTown() {
-        NoseTown x = townOf("town 3 2;herb 20 0 51 0 23 3;sort 10 0 51 0 23 -1;garden;garden;plant 0 0 0 of 0;"
+        return busyTown(new NoseTown());
+    }
+
+    private static NoseTown busyTown(NoseTown x) {
+        tell(x, "town 3 2;herb 20 0 51 0 23 3;sort 10 0 51 0 23 -1;garden;garden;plant 0 0 0 of 0;"
             + "plant 1 2 0 of 1;plant 0 1 1;gate 2 0;gate 0 1;gate 1 1;gate 0 0;mask 1 0 50;cold 2;fade 9;");
         x.walk(00123, 7);
         x.week(3);
@@ -315,6 +319,57 @@ public final class RefusedTest extends TownChecks {
         changesNothing("sum", RefusedTest::busyTown, busyTown().sum(1, 2), x -> x.sum(1, 2));
     }
 
+    private static final ToCall[] QUESTIONS = {
+        x -> x.order(), x -> x.smell(0, 3, 5, 3), x -> x.smelt(1, 3, 5, 3, 0), x -> x.smelt(0, 3, 5, 3, 1),
+        x -> x.smelt(0, 3, 5, 3, 2), x -> x.mark(0, 3, 5, 3), x -> x.mark(1, 5, 23, 4), x -> x.sum(0, 4), x -> x.sum(1, 1),
+        x -> x.winner(1, 0), x -> x.winner(4, 1), x -> x.prize(0, 3, 9999), x -> x.prize(1, 0, 9999), x -> x.odds(0, 0),
+        x -> x.odds(1, 1), x -> x.best(0, 0), x -> x.best(1, 1), x -> x.rest(), x -> x.grow(0, 0), x -> x.grow(1, 0),
+        x -> x.grow(1, 1), x -> x.fair(0), x -> x.fair(1), x -> x.cases(-1), x -> x.cases(0), x -> x.next(2, 0),
+        x -> x.next(12, 1), x -> x.days(0, 5, 100), x -> x.days(1, -5, 100)};
+
+    /** Each question is answered alike on an object that was asked nothing, any other one, or all of another town. */
+    private static void askedAhead() {
+        sentence("Not promised", "the answers and state changes described above");
+        for (int i = 0; i < QUESTIONS.length; i++) {
+            ToCall question = QUESTIONS[i];
+            long want = question.of(busyTown());
+            for (int j = 0; j < QUESTIONS.length; j++) {
+                ToCall ahead = QUESTIONS[j];
+                due("question " + i + " behind " + j, want, () -> {
+                    NoseTown x = busyTown();
+                    ahead.of(x);
+                    return question.of(x);
+                });
+            }
+            due("question " + i + " behind another town", want, () -> question.of(busyTown(askedMuch())));
+        }
+    }
+
+    /** A town with all at most, asked all questions by it. */
+    private static NoseTown askedMuch() {
+        StringBuilder text = new StringBuilder("town 8 8;garden;garden;garden;garden;garden;");
+        for (int sort = 0; sort < 6; sort++) {
+            text.append("herb ").append(50 + sort).append(" 0 51 0 23 ").append(9 - sort).append(';');
+        }
+        for (int plant = 0; plant < 11; plant++) {
+            text.append("plant ").append(plant % 6).append(' ').append(plant % 8).append(' ').append(plant / 8).append(" of ")
+                .append(plant % 5).append(';');
+        }
+        text.append("gate 0 0;gate 7 7;gate 3 3;gate 4 1;gate 1 4;mask 5 0 9;mask 0 5 9;against 14;fade 1;");
+        NoseTown x = townOf(text.toString());
+        x.walk(001234, 22);
+        for (int plant = 0; plant < 11; plant++) {
+            x.turn(plant, plant % 3);
+        }
+        for (int many = 0; many < 11; many++) {
+            x.nose(many % 5, 12, many % 6, x.smelt(many % 6, new int[] {0, 63, 27, 12, 33}[many % 5], 12, 4, 2));
+        }
+        for (ToCall question : QUESTIONS) {
+            question.of(x);
+        }
+        return x;
+    }
+
     private static void noCase() {
         sentence("24", "NoSuchElementException: there is none.");
         int many = busyTown().cases(-1);
@@ -344,6 +399,7 @@ public final class RefusedTest extends TownChecks {
         noses();
         nothingThere();
         questions();
+        askedAhead();
         noCase();
         end("what is refused changes nothing else");
     }

@@ -76,6 +76,14 @@ public final class SearchEdgesTest extends TownChecks {
         NoseTown gateless = townOf(text.replace("gate 7 0;", "") + "winds 3 0 0 0 0;");
         best("no gates", gateless, 0, 3, 0);
         best("no gates, the other", gateless, 1, 0, 0);
+        NoseTown faint = townOf("town 3 2;herb 7" + ALL_YEAR + "1;garden;garden;plant 0 1 0 of 1;gate 0 0;fade 20;" + "winds 1 0 0 0 0;");
+        best("smelt as 1 if burned alone", faint, 1, 1, 2);
+        for (int wind = 0; wind < 5; wind++) {
+            String weights = "winds" + " 0".repeat(wind) + " 9" + " 0".repeat(4 - wind) + ";";
+            NoseTown west = townOf("town 3 3;herb 5" + ALL_YEAR + "1;sort 10" + ALL_YEAR + "1;garden;garden;plant 0 1 1 of 1;"
+                + "plant 1 1 0 of 0;gate 0 1;gate 2 1;against 0;fade 1;gain 1;" + weights);
+            best("by wind " + wind, west, 1, 9, wind == 1 ? 0 : 2);
+        }
         NoseTown asleep = townOf("town 8 2;garden;garden;herb 5 1 51 0 23 -1;plant 0 0 0 of 0;plant 0 1 0 of 1;gate 7 0;" + CALM);
         best("out of season", asleep, 0, 1, 0);
         asleep.week(1);
@@ -184,6 +192,9 @@ public final class SearchEdgesTest extends TownChecks {
         x.turn(0, 1);
         x.turn(1, 1);
         due("opened by the second one, opened and burned, burned by the first one", 3, x::rest);
+        NoseTown never = townOf("town 7 7;herb 45" + ALL_YEAR + "7;herb 43" + ALL_YEAR + "2;garden;garden;plant 0 0 0 of 0;"
+            + "plant 0 3 0 of 1;plant 1 2 2 of 0;plant 1 3 2 of 1;gate 3 1;gate 1 2;mask 1 0 53;fade 2;gain 5;cold 3;");
+        due("one answers the other for ever", -1, never::rest);
         due("no weights", 0, () -> townOf(text + "winds 0 0 0 0 0;").rest());
         due("no gates", 0, () -> townOf(text.replace("gate 2 0;", "")).rest());
         due("no gardens", 0, () -> townOf("gate 0 0;" + SORT + "plant 0 0 0;").rest());
@@ -288,6 +299,11 @@ public final class SearchEdgesTest extends TownChecks {
         fair("by east the gate afar is as near", townOf(hours + "winds 1 0 1 0 0;"), 0210, 20);
         fair("by west alone", townOf(hours + "winds 0 0 0 0 1;"), 0201, 10);
         fair("by west and calm", townOf(hours + "winds 99 0 0 0 1;"), 0201, 15);
+        for (int garden = 0; garden < 5; garden++) {
+            String one = "sort 9" + ALL_YEAR + "-3;" + "garden;".repeat(5) + "plant 0 0 0 of " + garden + ";" + "gate 0 0;".repeat(5);
+            fair("of five the least is " + garden, townOf(one), 043210, 27 * 5);
+            fair("of five the greatest is " + garden, townOf(one.replace("-3", "3")), 043210, 27 * 5);
+        }
         String three = "town 8 2;" + "sort 9" + ALL_YEAR + "1;sort 9" + ALL_YEAR + "-1;sort 9" + ALL_YEAR
             + "0;garden;garden;garden;plant 0 0 0 of 1;plant 1 1 0 of 2;plant 2 2 0 of 0;gate 0 0;" + CALM;
         fair("the greatest less the least", townOf(three), 0, 18);
@@ -328,6 +344,85 @@ public final class SearchEdgesTest extends TownChecks {
         return x;
     }
 
+    /** Six sorts, five gardens, eleven plants, five gates, all winds: whatever a search finds must come true once it is done. */
+    private static String largest(int kind) {
+        StringBuilder text = new StringBuilder("town 8 8;" + "garden;".repeat(5));
+        for (int sort = 0; sort < 6; sort++) {
+            text.append(sort % 2 == kind % 2 ? "herb " : "sort ").append(20 + (sort * 7 + kind * 3) % 30).append(" 0 51 ")
+                .append(kind % 3 == 0 ? "0 23 " : "12 16 ").append(sort == 4 ? "-" : "").append(1 + (sort * 5 + kind) % 9).append(';');
+        }
+        for (int plant = 0; plant < 11; plant++) {
+            int cell = (plant * 23 + kind * 5) % 64;
+            text.append("plant ").append(plant % 6).append(' ').append(cell % 8).append(' ').append(cell / 8).append(" of ")
+                .append((plant + kind) % 5).append(';');
+        }
+        for (int gate = 0; gate < 5; gate++) {
+            int cell = (gate * 37 + kind * 11) % 64;
+            text.append("gate ").append(cell % 8).append(' ').append(cell / 8).append(';');
+        }
+        return text + "mask 0 1 40;mask 5 2 30;mask 3 0 20;fade 2;gain 4;against 3;cold 2;winds 7 11 13 17 19;";
+    }
+
+    private static int weightsWon(NoseTown x, int garden) {
+        int all = 0;
+        for (int wind = 0; wind < 5; wind++) {
+            all += x.winner(wind, 0) == garden ? x.count(20 + wind) : 0;
+        }
+        return all;
+    }
+
+    private static int greatestDifference(NoseTown x) {
+        int greatest = 0;
+        for (int wind = 0; wind < 5; wind++) {
+            int most = Integer.MIN_VALUE;
+            int least = Integer.MAX_VALUE;
+            for (int garden = 0; garden < 5; garden++) {
+                most = Math.max(most, x.sum(garden, wind));
+                least = Math.min(least, x.sum(garden, wind));
+            }
+            greatest = Math.max(greatest, most - least);
+        }
+        return greatest;
+    }
+
+    private static void largestTowns() {
+        sentence("Terms", "SORTS (at most 6), GARDENS (at most 5), PLANTS (at most 12), GATES (at most 5)");
+        for (int kind = 0; kind < 24; kind++) {
+            String text = largest(kind);
+            for (int garden = 0; garden < 5; garden++) {
+                comesTrue(text, garden);
+            }
+            NoseTown fair = townOf(text);
+            int order = fair.fair(0);
+            due("the order told", 1, () -> bit(fair.walk(order, 12)));
+            due("the fairest difference", greatestDifference(fair), () -> townOf(text).fair(1));
+        }
+    }
+
+    private static void comesTrue(String text, int garden) {
+        int now = weightsWon(townOf(text), garden);
+        int divisor = java.math.BigInteger.valueOf(now).gcd(java.math.BigInteger.valueOf(67)).intValue();
+        due("upper odds", now / divisor, () -> townOf(text).odds(garden, 0));
+        due("lower odds", 67 / divisor, () -> townOf(text).odds(garden, 1));
+        NoseTown tuned = townOf(text);
+        int row = tuned.best(garden, 1);
+        for (int plant = 10; plant >= 0; plant--) {
+            if (tuned.plant(plant, 2) == garden) {
+                tuned.turn(plant, row % 3);
+                row /= 3;
+            }
+        }
+        due("best", weightsWon(tuned, garden), () -> townOf(text).best(garden, 0));
+        due("no turn was refused", 0, () -> tuned.count(15));
+        int number = townOf(text).grow(garden, 0);
+        NoseTown grown = townOf(text + "plant " + number / 64 + " " + number % 64 % 8 + " " + number % 64 / 8 + " of " + garden + ";");
+        due("one plant more", weightsWon(grown, garden), () -> townOf(text).grow(garden, 1));
+        for (int wind = 0; wind < 5; wind++) {
+            String one = text.replaceAll("winds.*", "winds" + " 0".repeat(wind) + " 1" + " 0".repeat(4 - wind) + ";");
+            due("days of wind " + wind, townOf(one).winner(wind, 0) == garden ? 100 : 0, () -> townOf(one).days(garden, 1, 100));
+        }
+    }
+
     public static void main(String[] args) {
         allWays();
         noHerbs();
@@ -341,6 +436,7 @@ public final class SearchEdgesTest extends TownChecks {
         notFair();
         fairest();
         allOrders();
+        largestTowns();
         end("searches go to their edges");
     }
 }

@@ -129,6 +129,16 @@ public final class SmellEdgesTest extends TownChecks {
         due("the farthest across, north", 0, () -> smell(strong, 7, 1));
         NoseTown none = townOf("town 8 8;sort 99" + ALL_YEAR + "1;plant 0 0 0;fade 1;gain 0;");
         due("no gain", 92, () -> smell(none, 7, 2));
+        StringBuilder six = new StringBuilder("garden;".repeat(5) + "fade 0;");
+        for (int sort = 0; sort < 6; sort++) {
+            six.append("sort 10").append(ALL_YEAR).append(sort + 1).append(";plant ").append(sort).append(' ').append(sort)
+                .append(" 0 of ").append(sort % 5).append(';');
+        }
+        NoseTown sixes = townOf(six.toString());
+        for (int garden = 0; garden < 5; garden++) {
+            int asked = garden;
+            due("of six sorts the mark of " + garden, 10 * (garden == 0 ? 1 + 6 : garden + 1), () -> sixes.mark(asked, 0, 0, 0));
+        }
         NoseTown most = townOf("town 8 8;herb 99" + ALL_YEAR + "1;plant 0 0 0;fade 0;gain 9;");
         most.turn(0, 2);
         due("the most of all", 297 + 63, () -> smell(most, 7, 2));
@@ -207,6 +217,8 @@ public final class SmellEdgesTest extends TownChecks {
         due("RAW isn't masked", 50, () -> ring.smelt(0, 0, 0, 0, 0));
         NoseTown unsmelt = townOf(three + "mask 1 0 50;cold 99;");
         due("what masks goes by RAW, cold or not", 1, () -> unsmelt.smelt(0, 0, 0, 0, 1));
+        NoseTown loud = townOf(three + "mask 1 0 1;plant 2 3 0;");
+        due("by a sort that masks it alone", 50, () -> loud.smelt(0, 0, 0, 0, 1));
         NoseTown six = townOf(SORT.repeat(5) + "sort 10 0 51 0 0 1;plant 0 0 0;plant 5 1 0;mask 5 0 30;mask 0 5 20;fade 0;");
         due("by the last sort", 2, () -> six.smelt(0, 0, 0, 0, 1));
         due("the last sort", 9, () -> six.smelt(5, 0, 0, 0, 1));
@@ -240,6 +252,16 @@ public final class SmellEdgesTest extends TownChecks {
         NoseTown bad = townOf("sort 10" + ALL_YEAR + "-9;sort 4" + ALL_YEAR + "9;" + text + "mask 1 0 50;");
         due("cut down, then liked", -81 + 36, () -> bad.mark(0, 0, 0, 0));
         due("cut down, then liked, the second", -81, () -> bad.mark(1, 0, 0, 0));
+        StringBuilder six = new StringBuilder("garden;".repeat(5) + "fade 0;");
+        for (int sort = 0; sort < 6; sort++) {
+            six.append("sort 10").append(ALL_YEAR).append(sort + 1).append(";plant ").append(sort).append(' ').append(sort)
+                .append(" 0 of ").append(sort % 5).append(';');
+        }
+        NoseTown sixes = townOf(six.toString());
+        for (int garden = 0; garden < 5; garden++) {
+            int asked = garden;
+            due("of six sorts the mark of " + garden, 10 * (garden == 0 ? 1 + 6 : garden + 1), () -> sixes.mark(asked, 0, 0, 0));
+        }
         NoseTown most = townOf("town 8 8;herb 99" + ALL_YEAR + "9;garden;garden;garden;garden;garden;plant 0 0 0 of 4;"
             + "plant 0 0 1 of 4;plant 0 0 2 of 4;plant 0 0 3 of 4;plant 0 0 4 of 4;plant 0 0 5 of 4;plant 0 0 6 of 4;"
             + "plant 0 0 7 of 4;plant 0 1 0 of 4;plant 0 1 1 of 4;plant 0 1 2 of 4;plant 0 1 3 of 4;"
@@ -275,6 +297,11 @@ public final class SmellEdgesTest extends TownChecks {
         due("week", 0, () -> townOf(gates).count(11));
         due("without gates", 0, () -> townOf("garden;").order());
         sentence("Terms", "A GARDEN's SUM: its MARKS at all of them, together.");
+        StringBuilder twelve = new StringBuilder("town 8 2;sort 9" + ALL_YEAR + "0;sort 9" + ALL_YEAR + "1;garden;fade 0;gate 0 0;");
+        for (int plant = 0; plant < 12; plant++) {
+            twelve.append("plant ").append(plant / 11).append(' ').append(plant % 8).append(' ').append(plant / 8).append(" of 0;");
+        }
+        due("the 12th plant is of another sort", 9, () -> townOf(twelve.toString()).sum(0, 0));
         due("no gates", 0, () -> townOf("sort 9" + ALL_YEAR + "9;garden;plant 0 0 0 of 0;").sum(0, 0));
         due("one gate thrice", 27, () -> townOf("sort 9" + ALL_YEAR + "1;garden;plant 0 0 0 of 0;gate 0 0;gate 0 0;gate 0 0;")
             .sum(0, 0));
@@ -347,6 +374,10 @@ public final class SmellEdgesTest extends TownChecks {
         parts(1, new int[] {1, 1}, 1, 0);
         parts(1, new int[] {1, 2}, 0, 1);
         parts(100, new int[] {-5, 1, 0}, 0, 100, 0);
+        parts(100, new int[] {3, -5, 5}, 37, 0, 63);
+        String two = "sort 3" + ALL_YEAR + "1;garden;garden;plant 0 0 0 of 0;plant 0 1 0 of 1;gate 0 0;fade 1;";
+        due("3 and 2, not asked for ahead", 60, () -> townOf(two).prize(0, 0, 100));
+        due("3 and 4, not asked for ahead", 58, () -> townOf(two).prize(1, 4, 100));
         parts(100, new int[] {99, -99, 1}, 99, 0, 1);
         parts(7, new int[] {9}, 7);
         parts(9999, new int[] {99, 99, 99, 99, 98}, 2007, 2003, 2003, 2003, 1983);

@@ -194,6 +194,33 @@ public final class TextEdgesTest extends TownChecks {
         faulty(SORT + "garden;plant 0 0 0 of0 0;", 1, 40);
     }
 
+    /** Each word that may stand, with another letter at each place, with one more and with one less. */
+    private static void words() {
+        sentence("Terms", "In quotes is what stands there");
+        String[] lines = {"town 2 2;", "sort 5 0 0 0 0 1;", "herb 5 0 0 0 0 1;", "garden;", "gate 0 0;", "fade 1;", "gain 1;",
+            "against 1;", "cold 1;", "winds 1 1 1 1 1;"};
+        for (String line : lines) {
+            fits(line);
+            misspelt("", line.replaceAll("[^a-z].*", ""), line.replaceAll("^[a-z]*", ""), 0);
+        }
+        misspelt(SORT, "plant", " 0 0 0;", SORT.length());
+        misspelt(SORTS, "mask", " 0 1 5;", SORTS.length());
+        String owned = SORT + "garden;plant 0 0 0 ";
+        misspelt(owned, "of", " 0;", owned.length());
+    }
+
+    private static void misspelt(String ahead, String word, String behind, int place) {
+        fits(ahead + word + behind);
+        for (int i = 0; i < word.length(); i++) {
+            char other = word.charAt(i) == 'x' ? 'y' : 'x';
+            faulty(ahead + word.substring(0, i) + other + word.substring(i + 1) + behind, 1, place);
+            faulty(ahead + word.substring(0, i) + word.substring(i + 1) + behind, 1, place);
+            faulty(ahead + word.substring(0, i) + "x" + word.substring(i) + behind, 1, place);
+            faulty(ahead + word.substring(0, i) + (char) (word.charAt(i) - 32) + word.substring(i + 1) + behind, 1, place);
+        }
+        faulty(ahead + word + "s" + behind, 1, place);
+    }
+
     /** Each byte stands behind a word and ahead of a number, behind a word, behind a number, where a line may begin. */
     private static void bytes() {
         sentence("Terms", "blanks (32, 10) between them, which count for nothing");
@@ -488,6 +515,36 @@ public final class TextEdgesTest extends TownChecks {
         due("the second sort, masked before", 10, () -> x.smelt(1, 2, 0, 0, 1));
     }
 
+    /** What one text told is no longer told when the next one is read, be it the same one, and be the first one faulty. */
+    private static void toldAnew() {
+        sentence("3", "are a TOWN, all anew");
+        String settings = "fade 1;gain 1;against 1;cold 1;winds 1 1 1 1 1;";
+        String masks = SORTS + "mask 0 1 1;mask 1 0 1;";
+        String most = "town 8 8;" + SIX_SORTS + "garden;".repeat(5) + "gate 7 7;".repeat(5);
+        for (String text : new String[] {settings, masks, most, "town 3 3;"}) {
+            NoseTown x = townOf(text);
+            again(x, text, 0);
+            again(x, text + "?", 1);
+            again(x, text, 0);
+            dueText("told thrice", told(townOf(text), 14), told(x, 14));
+        }
+        for (int cell = 0; cell < 64; cell++) {
+            String text = "town 8 8;" + SORT + "plant 0 " + cell % 8 + " " + cell / 8 + ";";
+            NoseTown x = townOf(text);
+            again(x, text, 0);
+            again(x, text + "?", 1);
+            again(x, text, 0);
+            due("a cell in which something grows", 5 * (1 + 63), () -> x.cases(-1));
+            again(x, "town 8 8;" + SORT, 0);
+            due("cells in which nothing grows any more", 5 * (1 + 64), () -> x.cases(-1));
+        }
+    }
+
+    private static void again(NoseTown x, String text, int want) {
+        feedText(x, text);
+        due("once more " + text, want, () -> x.town(text.length()));
+    }
+
     private static void latestFault() {
         sentence("4", "The place of the latest town()'s FAULT; NONE without.");
         NoseTown x = new NoseTown();
@@ -517,6 +574,7 @@ public final class TextEdgesTest extends TownChecks {
         weights();
         masks();
         tokens();
+        words();
         bytes();
         lines();
         endsTooSoon();
@@ -531,6 +589,7 @@ public final class TextEdgesTest extends TownChecks {
         noSuchTown();
         faultStays();
         allAnew();
+        toldAnew();
         latestFault();
         end("texts are read to their edges");
     }

@@ -87,9 +87,13 @@ abstract class TownChecks {
 
     static NoseTown townOf(String text) {
         NoseTown x = new NoseTown();
+        tell(x, text);
+        return x;
+    }
+
+    static void tell(NoseTown x, String text) {
         feedText(x, text);
         due("town of: " + text, 0, () -> x.town(text.length()));
-        return x;
     }
 
     static void counts(String name, NoseTown x, int... want) {
