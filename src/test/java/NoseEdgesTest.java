@@ -237,9 +237,41 @@ public final class NoseEdgesTest extends TownChecks {
         due("amid the town most of them are smelt", 4, () -> all.next(12, 0));
     }
 
+    /** Nothing is seen, so one more plant is smelt alone: groups are counted here by its sort and smell. */
+    private static void manyGroups() {
+        sentence("Terms", "the greatest group of CASES that FIT and by which each SORT would be SMELT alike");
+        for (int kind = 0; kind < 60; kind++) {
+            int fade = kind % 4;
+            int gain = kind % 10;
+            int gate = kind * 37 % 64;
+            int many = 1 + kind % 6;
+            StringBuilder text = new StringBuilder("town 8 8;against 14;fade " + fade + ";gain " + gain + ";gate " + gate % 8 + " "
+                + gate / 8 + ";");
+            for (int sort = 0; sort < many; sort++) {
+                text.append("sort ").append(60 + sort * kind % 40).append(ALL_YEAR).append("1;");
+            }
+            next("many groups, " + text, townOf(text.toString()), 12, 0, greatestGroup(kind, many, gate, fade, gain));
+        }
+    }
+
+    private static int greatestGroup(int kind, int many, int gate, int fade, int gain) {
+        java.util.Map<Integer, Integer> groups = new java.util.HashMap<>();
+        groups.put(0, 5);
+        for (int i = 0; i < 5 * many * 64; i++) {
+            int east = gate % 8 - i % 8;
+            int south = gate / 8 - i / 8 % 8;
+            int sort = i / 64 % many;
+            int along = new int[] {0, -south, east, south, -east}[i / 64 / many];
+            int smell = 60 + sort * kind % 40 - fade * (Math.abs(east) + Math.abs(south)) + gain * along;
+            groups.merge(smell <= 0 ? 0 : 1000 * (sort + 1) + smell, 1, Integer::sum);
+        }
+        return java.util.Collections.max(groups.values());
+    }
+
     /** What grows stands beside what is seen, by each wind: 3 by 2 cells, one of them seen, the gate amid the long side. */
     private static void beside() {
-        sentence("Terms", "A CASE: nothing more grows, or one more PLANT .. by one of the WINDS with a WEIGHT");
+        sentence("Terms", "A CASE: nothing more grows, or one more PLANT (OPEN, of no GARDEN), of a SORT, in a cell without one; "
+            + "by one of the WINDS with a WEIGHT");
         // seen at the gate: calm 15, north 13, east 17, south 13, west 13; a step against the wind counts, two don't
         String seen = "town 3 2;sort 20" + ALL_YEAR + "1;plant 0 0 0;gate 1 0;gain 2;fade 5;against 1;winds ";
         cases("calm", nosed(seen + "1 0 0 0 0;", 15), 0);
@@ -432,7 +464,7 @@ public final class NoseEdgesTest extends TownChecks {
     }
 
     private static void hoursOfNosed() {
-        sentence("Terms", "AN IMAGE keeps .. NOSED");
+        sentence("Terms", "AN IMAGE keeps how PLANTS are, the ORDER, BEGIN, the WEEK, NOSED, STATUS.");
         NoseTown x = townOf("town 2 2;sort 9 0 51 5 5 1;gate 0 0;winds 1 0 0 0 0;fade 9;");
         for (int last = 1; last <= MOST_NOSED; last++) {
             for (int left = x.count(12); left > 0; left--) {
@@ -452,7 +484,7 @@ public final class NoseEdgesTest extends TownChecks {
     }
 
     private static void imageOfNosed() {
-        sentence("Terms", "AN IMAGE keeps .. NOSED");
+        sentence("Terms", "AN IMAGE keeps how PLANTS are, the ORDER, BEGIN, the WEEK, NOSED, STATUS.");
         NoseTown x = townOf(STREET + "gate 2 1;sort 9" + ALL_YEAR + "1;");
         x.nose(0, 3, 0, 5);
         x.image();
@@ -540,6 +572,7 @@ public final class NoseEdgesTest extends TownChecks {
         weekAndHour();
         nextGate();
         everySortAlike();
+        manyGroups();
         beside();
         days();
         image();

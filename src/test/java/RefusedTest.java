@@ -94,7 +94,7 @@ public final class RefusedTest extends TownChecks {
     }
 
     private static void contests() {
-        sentence("14", "no such GARDEN, WIND (as everywhere)");
+        sentence("14", "SUM of a GARDEN.");
         noSuch("sum", new int[] {GARDENS, WINDS}, (x, n) -> x.sum(n[0], n[1]));
         sentence("15", "NoSuchElementException: also another what.");
         noSuch("winner", new int[] {WINDS, 2}, (x, n) -> x.winner(n[0], n[1]));
@@ -111,7 +111,7 @@ public final class RefusedTest extends TownChecks {
     }
 
     private static void prizes() {
-        sentence("16", "no such GARDEN, WIND (as everywhere)");
+        sentence("16", "What a GARDEN has of a PRIZE.");
         noSuch("prize", new int[] {GARDENS, WINDS}, (x, n) -> x.prize(n[0], n[1], 9999));
         noSuch("prize", new int[] {GARDENS, WINDS}, (x, n) -> x.prize(n[0], n[1], 0));
         sentence("16", "IllegalArgumentException (behind NoSuchElementException): the PRIZE.");
@@ -303,7 +303,7 @@ public final class RefusedTest extends TownChecks {
     private static void questions() {
         sentence("19", "(Behind it PLANTS are as they were.)");
         changesNothing("rest", RefusedTest::busyTown, busyTown().rest(), NoseTown::rest);
-        sentence("Terms", "an image keeps what stands; questions leave it");
+        sentence("Not promised", "Nothing is promised beyond the answers and state changes described above");
         for (int what = 0; what < 2; what++) {
             int asked = what;
             changesNothing("best", RefusedTest::busyTown, busyTown().best(1, what), x -> x.best(1, asked));
@@ -332,7 +332,7 @@ public final class RefusedTest extends TownChecks {
         sentence("Not promised", "the answers and state changes described above");
         for (int i = 0; i < QUESTIONS.length; i++) {
             ToCall question = QUESTIONS[i];
-            long want = question.of(busyTown());
+            long want = answerOf(() -> question.of(busyTown()));
             for (int j = 0; j < QUESTIONS.length; j++) {
                 ToCall ahead = QUESTIONS[j];
                 due("question " + i + " behind " + j, want, () -> {
@@ -342,8 +342,22 @@ public final class RefusedTest extends TownChecks {
                 });
             }
             due("question " + i + " behind another town", want, () -> question.of(busyTown(askedMuch())));
+            for (String text : QUIET) {
+                due("question " + i + " behind another town, of " + text, answerOf(() -> question.of(townOf(text))), () -> {
+                    NoseTown x = askedMuch();
+                    tell(x, text);
+                    return question.of(x);
+                });
+            }
         }
     }
+
+    /** Few winds have a weight, few gates are walked, little grows: what a greater town left must not be told of. */
+    private static final String[] QUIET = {
+        "town 3 2;sort 9 0 0 0 23 1;sort 5 0 0 0 23 2;garden;garden;plant 0 0 1 of 0;gate 1 1;winds 0 0 3 0 0;",
+        "town 3 2;sort 9 0 0 0 23 1;sort 5 0 0 0 23 2;garden;garden;plant 0 0 1 of 1;gate 1 1;winds 0 2 0 0 0;",
+        "town 8 8;sort 9 0 0 0 23 1;sort 5 0 0 0 23 2;garden;garden;plant 0 7 7 of 1;gate 7 7;gate 6 7;winds 0 0 0 0 0;",
+        "town 8 8;sort 9 0 0 0 23 -1;sort 5 0 0 0 23 2;garden;garden;plant 0 7 7 of 0;plant 1 7 6 of 1;gate 7 7;gate 6 7;fade 3;"};
 
     /** A town with all at most, asked all questions by it. */
     private static NoseTown askedMuch() {
@@ -352,8 +366,8 @@ public final class RefusedTest extends TownChecks {
             text.append("herb ").append(50 + sort).append(" 0 51 0 23 ").append(9 - sort).append(';');
         }
         for (int plant = 0; plant < 11; plant++) {
-            text.append("plant ").append(plant % 6).append(' ').append(plant % 8).append(' ').append(plant / 8).append(" of ")
-                .append(plant % 5).append(';');
+            text.append("plant ").append(plant < 6 ? plant % 2 : plant % 6).append(' ').append(plant % 8).append(' ')
+                .append(plant / 8).append(" of ").append(plant < 6 ? plant % 2 : plant % 5).append(';');
         }
         text.append("gate 0 0;gate 7 7;gate 3 3;gate 4 1;gate 1 4;mask 5 0 9;mask 0 5 9;against 14;fade 1;");
         NoseTown x = townOf(text.toString());

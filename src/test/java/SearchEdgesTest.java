@@ -76,7 +76,7 @@ public final class SearchEdgesTest extends TownChecks {
         NoseTown gateless = townOf(text.replace("gate 7 0;", "") + "winds 3 0 0 0 0;");
         best("no gates", gateless, 0, 3, 0);
         best("no gates, the other", gateless, 1, 0, 0);
-        NoseTown faint = townOf("town 3 2;herb 7" + ALL_YEAR + "1;garden;garden;plant 0 1 0 of 1;gate 0 0;fade 20;" + "winds 1 0 0 0 0;");
+        NoseTown faint = townOf("town 3 2;herb 7" + ALL_YEAR + "1;garden;garden;plant 0 1 0 of 1;gate 0 0;fade 20;winds 1 0 0 0 0;");
         best("smelt as 1 if burned alone", faint, 1, 1, 2);
         for (int wind = 0; wind < 5; wind++) {
             String weights = "winds" + " 0".repeat(wind) + " 9" + " 0".repeat(4 - wind) + ";";
@@ -84,6 +84,11 @@ public final class SearchEdgesTest extends TownChecks {
                 + "plant 1 1 0 of 0;gate 0 1;gate 2 1;against 0;fade 1;gain 1;" + weights);
             best("by wind " + wind, west, 1, 9, wind == 1 ? 0 : 2);
         }
+        NoseTown far = townOf("town 8 8;herb 7" + ALL_YEAR + "1;garden;garden;plant 0 7 7 of 0;plant 0 0 7 of 1;" + "gate 0 0;".repeat(5)
+            + "fade 20;winds 1 1 1 1 1;");
+        far.turn(0, 1);
+        best("never smelt at five gates", far, 0, 5, 0);
+        best("never smelt at five gates, the other", far, 1, 0, 0);
         NoseTown asleep = townOf("town 8 2;garden;garden;herb 5 1 51 0 23 -1;plant 0 0 0 of 0;plant 0 1 0 of 1;gate 7 0;" + CALM);
         best("out of season", asleep, 0, 1, 0);
         asleep.week(1);
@@ -386,7 +391,7 @@ public final class SearchEdgesTest extends TownChecks {
     }
 
     private static void largestTowns() {
-        sentence("Terms", "SORTS (at most 6), GARDENS (at most 5), PLANTS (at most 12), GATES (at most 5)");
+        sentence("Terms", "PLANTS 0, 1 .. (at most 12)");
         for (int kind = 0; kind < 24; kind++) {
             String text = largest(kind);
             for (int garden = 0; garden < 5; garden++) {

@@ -35,7 +35,7 @@ abstract class TownChecks {
         }
     }
 
-    private static long answerOf(Call call) {
+    static long answerOf(Call call) {
         try {
             return call.answer();
         } catch (RuntimeException e) {
