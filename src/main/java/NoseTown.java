@@ -998,18 +998,15 @@ public final class NoseTown {
 
     /** The walk, by a copy of how plants are, so that ways can be tried and the town stays as it is. */
     private static final class Contest {
-        /** One more place than plants: for one that a garden might plant. */
-        private static final int PLACES = MOST_PLANTS + 1;
-
         private final Plan plan;
         private final State now;
         private final Blend blend;
         private int plants;
-        private final int[] sortOf = new int[PLACES];
-        private final int[] gardenOf = new int[PLACES];
-        final int[] how = new int[PLACES];
-        private final int[] fresh = new int[WINDS * MOST_GATES * PLACES];
-        private final int[] burnt = new int[WINDS * MOST_GATES * PLACES];
+        private final int[] sortOf = new int[MOST_PLANTS];
+        private final int[] gardenOf = new int[MOST_PLANTS];
+        final int[] how = new int[MOST_PLANTS];
+        private final int[] fresh = new int[WINDS * MOST_GATES * MOST_PLANTS];
+        private final int[] burnt = new int[WINDS * MOST_GATES * MOST_PLANTS];
         final int[] sums = new int[MOST_GARDENS];
         private final int[] leaders = new int[WINDS];
 
@@ -1071,7 +1068,7 @@ public final class NoseTown {
         }
 
         private static int placeOf(int wind, int gate) {
-            return (wind * MOST_GATES + gate) * PLACES;
+            return (wind * MOST_GATES + gate) * MOST_PLANTS;
         }
 
         boolean everSmells(int plant) {
@@ -1199,7 +1196,7 @@ public final class NoseTown {
         private final int[] choices = new int[MOST_TUNED];
         private final int[] before = new int[MOST_TUNED];
         private final int[] tuned = new int[MOST_TUNED];
-        private final int[] seen = new int[MOST_ROUNDS + 1];
+        private final int[] seen = new int[MOST_ROUNDS];
         int newSort;
         int newCell;
 

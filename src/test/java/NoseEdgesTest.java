@@ -268,6 +268,36 @@ public final class NoseEdgesTest extends TownChecks {
         return java.util.Collections.max(groups.values());
     }
 
+    /** One herb is seen, and one more plant of its sort smells by its steps to the gate alone: a group for each smell. */
+    private static void groupsBesideOne() {
+        sentence("Terms", "the greatest group of CASES that FIT and by which each SORT would be SMELT alike");
+        for (int strength = 1; strength <= 99; strength++) {
+            for (int fade = 0; fade <= 20; fade++) {
+                int seen = 1 + (strength + fade) % 7;
+                String text = "town 8 8;herb " + strength + ALL_YEAR + "1;plant 0 " + seen + " 0;gate 0 0;fade " + fade
+                    + ";winds 1 0 0 0 0;";
+                NoseTown x = townOf(text);
+                next("open, " + text, x, 0, 0, greatestBeside(seen, strength, strength, fade));
+                x.turn(0, 2);
+                next("burned, " + text, x, 0, 0, greatestBeside(seen, 3 * strength, strength, fade));
+                x.turn(0, 1);
+                next("shut, " + text, x, 0, 0, greatestBeside(seen, 0, strength, fade));
+            }
+        }
+    }
+
+    private static int greatestBeside(int seen, int strengthSeen, int strength, int fade) {
+        java.util.Map<Integer, Integer> groups = new java.util.HashMap<>();
+        int smell = Math.max(0, strengthSeen - fade * seen);
+        groups.put(smell, 1);
+        for (int cell = 0; cell < 64; cell++) {
+            if (cell != seen) {
+                groups.merge(smell + Math.max(0, strength - fade * (cell % 8 + cell / 8)), 1, Integer::sum);
+            }
+        }
+        return java.util.Collections.max(groups.values());
+    }
+
     /** What grows stands beside what is seen, by each wind: 3 by 2 cells, one of them seen, the gate amid the long side. */
     private static void beside() {
         sentence("Terms", "A CASE: nothing more grows, or one more PLANT (OPEN, of no GARDEN), of a SORT, in a cell without one; "
@@ -573,6 +603,7 @@ public final class NoseEdgesTest extends TownChecks {
         nextGate();
         everySortAlike();
         manyGroups();
+        groupsBesideOne();
         beside();
         days();
         image();
